@@ -1,0 +1,191 @@
+import java.util.Random;
+
+/** Long mixed runs of 512 calls, each answer against the model's. The seeds are fixed, so a run is always the same. */
+public final class ModelTest {
+    private static final int RUNS = 3000;
+    private static final int CALLS = 512;
+    private static final int[] NUMBERS = {0, 1, -1, 2, 3, 7, 8, 9, 15, 16, 55, 56, 57, 64, -2, Integer.MIN_VALUE,
+        Integer.MAX_VALUE};
+    private static final long[] LENGTHS = {0, 1, -1, 55, 56, 57, 55999, 56000, 56001, 1L << 60, (1L << 60) + 1,
+        Long.MIN_VALUE, Long.MAX_VALUE, (1L << 32) + 560, 329406144173384865L};
+
+    private final Random random;
+    private final PulseRows x;
+    private final Model model;
+    private final String run;
+    private final int carelessness;
+    private long now = 0;
+    private long unit;
+    private long calibration;
+    private int place = 0;
+    private int status = 0;
+    private int data = 0;
+    private int slowRow = 0;
+    private int slowBit = 15;
+    private long switchTime = 0;
+    private int wheel = 0;
+
+    private ModelTest(long seed) {
+        random = new Random(seed);
+        int tolerance = random.nextInt(40) - 4;
+        x = new PulseRows(tolerance);
+        model = new Model(tolerance);
+        run = "seed " + seed + ", tolerance " + tolerance + ": ";
+        // Some runs are nearly faultless, so that whole slow rows come to be; others fault all the time.
+        carelessness = new int[] {0, 2, 20, 120}[random.nextInt(4)];
+        unit = 1 + random.nextInt(1000);
+    }
+
+    public static void main(String[] args) {
+        for (int seed = 0; seed < RUNS; seed++) {
+            ModelTest test = new ModelTest(seed);
+            int otherCalls = new int[] {1, 5, 50}[seed % 3];
+            for (int call = 0; call < CALLS; call++) {
+                if (test.random.nextInt(100) < otherCalls) {
+                    test.otherCall();
+                } else {
+                    test.nextEdge();
+                }
+            }
+            test.lookAtAll();
+        }
+        Due.end();
+    }
+
+    private boolean careless() {
+        return random.nextInt(1000) < carelessness;
+    }
+
+    private int number() {
+        return random.nextBoolean() ? NUMBERS[random.nextInt(NUMBERS.length)] : random.nextInt();
+    }
+
+    private long length() {
+        if (random.nextBoolean()) {
+            return LENGTHS[random.nextInt(LENGTHS.length)];
+        }
+        return calibration + random.nextInt((int) calibration / 2 + 2) - calibration / 4;
+    }
+
+    private void nextEdge() {
+        if (careless()) {
+            edge(random.nextBoolean() ? LENGTHS[random.nextInt(LENGTHS.length)] : now - random.nextInt(3));
+            return;
+        }
+        edge(now + (careless() ? random.nextInt(70000) : nextPulse()));
+    }
+
+    private long nextPulse() {
+        if (place == 0) {
+            calibration = 56 * unit + random.nextInt((int) (8 * unit)) - 4 * unit;
+            return calibration;
+        }
+        int value = place == 1 ? nextStatus() : place < 8 ? random.nextInt(16) : Wire.checkOf(data);
+        if (place == 8 && careless()) {
+            value ^= 1 + random.nextInt(15);
+        }
+        if (place > 1 && place < 8) {
+            data = data << 4 & 0xFFFFFF | value;
+        }
+        return (calibration * (value + 12) + 28) / 56;
+    }
+
+    private int nextStatus() {
+        if (slowBit == 15) {
+            int upper = random.nextInt(4096);
+            slowRow = upper * 16 + Wire.checkOf(upper, 3);
+            if (random.nextInt(4) == 0) {
+                slowRow ^= 1 << random.nextInt(16);
+            }
+        }
+        status = (slowBit == 15 || careless() ? 8 : 0) + (slowRow >> slowBit & 1) * 4 + random.nextInt(4);
+        slowBit = (slowBit + 15) % 16;
+        return status;
+    }
+
+    private void edge(long t) {
+        long due = model.edge(t);
+        long faultsBefore = x.faults();
+        same("edge(" + t + ")", x.edge(t), due);
+        if (due != -2) {
+            now = t;
+            boolean fault = x.faults() != faultsBefore;
+            place = due == 8 || fault ? 0 : (int) due + 1;
+            if (model.row(-1, 0) == 0 && due == 0 && calibration == 0) {
+                // The first edge: a calibration comes next.
+                calibration = 56 * unit;
+                place = 0;
+            }
+        }
+        same("faults()", x.faults(), model.faults());
+        same("marked()", x.marked() ? 1 : 0, model.marked());
+    }
+
+    private void otherCall() {
+        int i = random.nextInt(70) - 3;
+        int n = number();
+        long length = length();
+        switch (random.nextInt(9)) {
+            case 0 -> nibble(random.nextInt(12) - 2);
+            case 1 -> same("check(" + n + ")", x.check(n), model.check(n));
+            case 2 -> same("slow(" + n + ")", x.slow(n), model.slow(n));
+            case 3 -> same("row(" + n + ", " + i + ")", x.row(n, i), model.row(n, i));
+            case 4 -> same("row(" + i + ", " + n + ")", x.row(i, n), model.row(i, n));
+            case 5 -> calibrate(length);
+            case 6 -> same("parity(" + n + ")", x.parity(n), model.parity(n));
+            case 7 -> bounce();
+            default -> turn();
+        }
+    }
+
+    private void nibble(int i) {
+        long got;
+        try {
+            got = x.nibble(i);
+        } catch (ArrayIndexOutOfBoundsException e) {
+            got = Long.MIN_VALUE;
+        }
+        same("nibble(" + i + ")", got, model.nibble(i));
+    }
+
+    private void calibrate(long length) {
+        long got;
+        try {
+            got = x.calibrate(length);
+        } catch (ArithmeticException e) {
+            got = Long.MIN_VALUE;
+        }
+        same("calibrate(" + length + ")", got, model.calibrate(length));
+    }
+
+    private void bounce() {
+        boolean level = random.nextInt(3) > 0;
+        long t = switchTime + random.nextInt(13) - 1;
+        long due = model.bounce(level, t);
+        same("bounce(" + level + ", " + t + ")", x.bounce(level, t), due);
+        switchTime = due == -2 ? switchTime : t;
+    }
+
+    private void turn() {
+        wheel = careless() ? random.nextInt(4) : wheel ^ 1 + random.nextInt(2);
+        boolean a = (wheel & 1) != 0;
+        boolean b = (wheel & 2) != 0;
+        same("turn(" + a + ", " + b + ")", x.turn(a, b), model.turn(a, b));
+    }
+
+    private void lookAtAll() {
+        for (int i = -2; i <= 58; i++) {
+            for (int what = -1; what <= 3; what++) {
+                same("row(" + i + ", " + what + ")", x.row(i, what), model.row(i, what));
+            }
+            same("slow(" + i + ")", x.slow(i), model.slow(i));
+        }
+        for (int i = -1; i <= 8; i++) {
+            nibble(i);
+        }
+    }
+
+    private void same(String call, long got, long due) {
+        Due.is(run + call, got, due);
+    }
+}
