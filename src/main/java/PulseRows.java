@@ -36,6 +36,7 @@ public final class PulseRows {
     private final int[] frames;
     private int frameCount;
 
+    /** The time of the last edge; -1, before all times, where there was none. */
     private long lastEdge;
     /** The length of the calibration that was taken last; 0 before the first one. */
     private long calibration;
@@ -58,8 +59,10 @@ public final class PulseRows {
         if (isOutsideTime(t) || t <= lastEdge) {
             return OUTSIDE;
         }
-        if (lastEdge >= 0) {
-            takePulse(t - lastEdge);
+        if (inFrame) {
+            takeNibble(t - lastEdge);
+        } else if (lastEdge >= 0) {
+            takeCalibration(t - lastEdge);
         }
         lastEdge = t;
         return nibbleCount;
@@ -143,14 +146,6 @@ public final class PulseRows {
 
     private boolean hasFrame(int i) {
         return i >= 0 && i < frameCount && i < frames.length;
-    }
-
-    private void takePulse(long length) {
-        if (inFrame) {
-            takeNibble(length);
-        } else {
-            takeCalibration(length);
-        }
     }
 
     private void takeCalibration(long length) {

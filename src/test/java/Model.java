@@ -28,6 +28,16 @@ final class Model {
         this.tolerance = tolerance < 1 || tolerance > 30 ? 20 : tolerance;
     }
 
+    /** The length of the calibration taken last, 0 if there was none. */
+    long lastTaken() {
+        return taken.isEmpty() ? 0 : taken.get(taken.size() - 1);
+    }
+
+    /** How many nibbles the frame that goes on has, -1 while a calibration is awaited. */
+    int openNibbles() {
+        return open == null ? -1 : open.size();
+    }
+
     private static boolean outside(long t) {
         return t < 0 || BigInteger.valueOf(t).compareTo(LATEST) > 0;
     }

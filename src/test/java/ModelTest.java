@@ -14,11 +14,8 @@ public final class ModelTest {
     private final Model model;
     private final String run;
     private final int carelessness;
+    private final int percent;
     private long now = 0;
-    private long unit;
-    private long calibration;
-    private int place = 0;
-    private int status = 0;
     private int data = 0;
     private int slowRow = 0;
     private int slowBit = 15;
@@ -33,7 +30,7 @@ public final class ModelTest {
         run = "seed " + seed + ", tolerance " + tolerance + ": ";
         // Some runs are nearly faultless, so that whole slow rows come to be; others fault all the time.
         carelessness = new int[] {0, 2, 20, 120}[random.nextInt(4)];
-        unit = 1 + random.nextInt(1000);
+        percent = tolerance < 1 || tolerance > 30 ? 20 : tolerance;
     }
 
     public static void main(String[] args) {
@@ -61,10 +58,7 @@ public final class ModelTest {
     }
 
     private long length() {
-        if (random.nextBoolean()) {
-            return LENGTHS[random.nextInt(LENGTHS.length)];
-        }
-        return calibration + random.nextInt((int) calibration / 2 + 2) - calibration / 4;
+        return random.nextBoolean() ? LENGTHS[random.nextInt(LENGTHS.length)] : nextCalibration();
     }
 
     private void nextEdge() {
@@ -76,18 +70,38 @@ public final class ModelTest {
     }
 
     private long nextPulse() {
-        if (place == 0) {
-            calibration = 56 * unit + random.nextInt((int) (8 * unit)) - 4 * unit;
-            return calibration;
+        int place = model.openNibbles();
+        if (place < 0) {
+            return careless() ? nextCalibration() + random.nextInt(3) - 1 : nextCalibration();
         }
-        int value = place == 1 ? nextStatus() : place < 8 ? random.nextInt(16) : Wire.checkOf(data);
-        if (place == 8 && careless()) {
+        int value = place == 0 ? nextStatus() : place < 7 ? random.nextInt(16) : Wire.checkOf(data);
+        if (place == 7 && careless()) {
             value ^= 1 + random.nextInt(15);
         }
-        if (place > 1 && place < 8) {
+        if (place > 0 && place < 7) {
             data = data << 4 & 0xFFFFFF | value;
         }
-        return (calibration * (value + 12) + 28) / 56;
+        return anyLengthOf(value);
+    }
+
+    /** One that is taken, and often just so. */
+    private long nextCalibration() {
+        long before = model.lastTaken();
+        if (before == 0) {
+            return 56 + random.nextInt(random.nextBoolean() ? 500 : 55945);
+        }
+        long away = before * percent / 100;
+        long by = random.nextInt(3) > 0 ? random.nextInt((int) away + 1) : away;
+        long length = random.nextBoolean() ? before + by : before - by;
+        return length < 56 || length > 56000 ? before : length;
+    }
+
+    /** The shortest, the middle or the longest pulse that gives this value. */
+    private long anyLengthOf(int value) {
+        long m = model.lastTaken();
+        long shortest = (m * (value + 12) - m / 2 + 55) / 56;
+        long longest = (m * (value + 13) - m / 2 - 1) / 56;
+        return new long[] {shortest, (shortest + longest) / 2, longest}[random.nextInt(3)];
     }
 
     private int nextStatus() {
@@ -98,25 +112,15 @@ public final class ModelTest {
                 slowRow ^= 1 << random.nextInt(16);
             }
         }
-        status = (slowBit == 15 || careless() ? 8 : 0) + (slowRow >> slowBit & 1) * 4 + random.nextInt(4);
+        int status = (slowBit == 15 || careless() ? 8 : 0) + (slowRow >> slowBit & 1) * 4 + random.nextInt(4);
         slowBit = (slowBit + 15) % 16;
         return status;
     }
 
     private void edge(long t) {
         long due = model.edge(t);
-        long faultsBefore = x.faults();
         same("edge(" + t + ")", x.edge(t), due);
-        if (due != -2) {
-            now = t;
-            boolean fault = x.faults() != faultsBefore;
-            place = due == 8 || fault ? 0 : (int) due + 1;
-            if (model.row(-1, 0) == 0 && due == 0 && calibration == 0) {
-                // The first edge: a calibration comes next.
-                calibration = 56 * unit;
-                place = 0;
-            }
-        }
+        now = due == -2 ? now : t;
         same("faults()", x.faults(), model.faults());
         same("marked()", x.marked() ? 1 : 0, model.marked());
     }
