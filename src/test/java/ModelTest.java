@@ -1,9 +1,11 @@
 import java.util.Random;
 
-/** Long mixed runs of 512 calls, each answer against the model's. The seeds are fixed, so a run is always the same. */
+/** Mixed runs of just 512 calls, each answer against the model's. The seeds are fixed, so a run is always the same. */
 public final class ModelTest {
     private static final int RUNS = 3000;
     private static final int CALLS = 512;
+    /** The last calls of a run only look, so that what its edges brought about is seen. */
+    private static final int LAST_LOOKS = 40;
     private static final int[] NUMBERS = {0, 1, -1, 2, 3, 7, 8, 9, 15, 16, 55, 56, 57, 64, -2, Integer.MIN_VALUE,
         Integer.MAX_VALUE};
     private static final long[] LENGTHS = {0, 1, -1, 55, 56, 57, 55999, 56000, 56001, 1L << 60, (1L << 60) + 1,
@@ -21,6 +23,7 @@ public final class ModelTest {
     private int slowBit = 15;
     private long switchTime = 0;
     private int wheel = 0;
+    private int calls = 0;
 
     private ModelTest(long seed) {
         random = new Random(seed);
@@ -37,14 +40,15 @@ public final class ModelTest {
         for (int seed = 0; seed < RUNS; seed++) {
             ModelTest test = new ModelTest(seed);
             int otherCalls = new int[] {1, 5, 50}[seed % 3];
-            for (int call = 0; call < CALLS; call++) {
-                if (test.random.nextInt(100) < otherCalls) {
+            while (test.calls < CALLS) {
+                if (test.calls >= CALLS - LAST_LOOKS) {
+                    test.look();
+                } else if (test.random.nextInt(100) < otherCalls) {
                     test.otherCall();
                 } else {
                     test.nextEdge();
                 }
             }
-            test.lookAtAll();
         }
         Due.end();
     }
@@ -121,15 +125,13 @@ public final class ModelTest {
         long due = model.edge(t);
         same("edge(" + t + ")", x.edge(t), due);
         now = due == -2 ? now : t;
-        same("faults()", x.faults(), model.faults());
-        same("marked()", x.marked() ? 1 : 0, model.marked());
     }
 
     private void otherCall() {
         int i = random.nextInt(70) - 3;
         int n = number();
         long length = length();
-        switch (random.nextInt(9)) {
+        switch (random.nextInt(11)) {
             case 0 -> nibble(random.nextInt(12) - 2);
             case 1 -> same("check(" + n + ")", x.check(n), model.check(n));
             case 2 -> same("slow(" + n + ")", x.slow(n), model.slow(n));
@@ -138,7 +140,9 @@ public final class ModelTest {
             case 5 -> calibrate(length);
             case 6 -> same("parity(" + n + ")", x.parity(n), model.parity(n));
             case 7 -> bounce();
-            default -> turn();
+            case 8 -> turn();
+            case 9 -> same("faults()", x.faults(), model.faults());
+            default -> same("marked()", x.marked() ? 1 : 0, model.marked());
         }
     }
 
@@ -177,19 +181,22 @@ public final class ModelTest {
         same("turn(" + a + ", " + b + ")", x.turn(a, b), model.turn(a, b));
     }
 
-    private void lookAtAll() {
-        for (int i = -2; i <= 58; i++) {
-            for (int what = -1; what <= 3; what++) {
-                same("row(" + i + ", " + what + ")", x.row(i, what), model.row(i, what));
-            }
-            same("slow(" + i + ")", x.slow(i), model.slow(i));
-        }
-        for (int i = -1; i <= 8; i++) {
-            nibble(i);
+    private void look() {
+        int i = random.nextInt((int) model.row(-1, 0) + 3) - 2;
+        int what = random.nextInt(5) - 1;
+        int message = random.nextInt(6) - 2;
+        switch (random.nextInt(6)) {
+            case 0 -> nibble(random.nextInt(10) - 1);
+            case 1 -> same("slow(" + message + ")", x.slow(message), model.slow(message));
+            case 2 -> same("faults()", x.faults(), model.faults());
+            case 3 -> same("marked()", x.marked() ? 1 : 0, model.marked());
+            default -> same("row(" + i + ", " + what + ")", x.row(i, what), model.row(i, what));
         }
     }
 
+    /** Stands behind each call of the object, so it counts them too. */
     private void same(String call, long got, long due) {
+        calls++;
         Due.is(run + call, got, due);
     }
 }

@@ -1,65 +1,115 @@
 public final class Promise06RowTest {
     public static void main(String[] args) {
-        Wire w = new Wire(20, 10);
-        Due.is("row(-1, 0) at first", w.x.row(-1, 0), 0);
-        Due.is("row(0, 0) at first", w.x.row(0, 0), -1);
-        Due.is("row(0, 3): -1 comes before -2", w.x.row(0, 3), -1);
-        w.rightFrame(3, 0x123456);
-        w.wrongFrame(15, 0xFFFFFF);
-        w.calibration();
-        w.nibble(40);
-        w.rightFrame(0, 0);
-        frameIs(w, 0, 3, 0x123456, 1);
-        frameIs(w, 1, 15, 0xFFFFFF, 0);
-        frameIs(w, 2, 0, 0, 1);
-        Due.is("row(-1, 0)", w.x.row(-1, 0), 3);
-        wrongNumbers(w);
-        everyWrongCheckIsWrong();
-        asManyAsTheCallsAllow();
+        howManyThereWere();
+        thereIsNone();
+        noSuchWhat();
+        theFirstThatFits();
+        statusDataAndRightness();
+        whetherItsCheckWasRight();
         Due.end();
     }
 
-    private static void frameIs(Wire w, int i, int status, int data, int right) {
-        Due.is("row(" + i + ", 0)", w.x.row(i, 0), status);
-        Due.is("row(" + i + ", 1)", w.x.row(i, 1), data);
-        Due.is("row(" + i + ", 2)", w.x.row(i, 2), right);
-        for (int what : new int[] {-1, 3, 4, Integer.MIN_VALUE, Integer.MAX_VALUE}) {
-            Due.is("row(" + i + ", " + what + ")", w.x.row(i, what), -2);
+    private static void howManyThereWere() {
+        Due.sentence("6 row: \"i = -1 with what = 0: how many there were\"");
+        Wire w = new Wire(20, 10);
+        Due.is("row(-1, 0) at first", w.x.row(-1, 0), 0);
+        w.rightFrame(3, 0x123456);
+        Due.is("row(-1, 0) behind a right frame", w.x.row(-1, 0), 1);
+        w.wrongFrame(3, 0x123456);
+        Due.is("row(-1, 0) behind a wrong one", w.x.row(-1, 0), 2);
+        w.calibration();
+        for (int k = 0; k < 7; k++) {
+            w.nibble(0);
         }
+        Due.is("row(-1, 0) before an eighth nibble", w.x.row(-1, 0), 2);
+        w.nibble(16);
+        Due.is("row(-1, 0) behind a frame that is gone", w.x.row(-1, 0), 2);
+        w.pulse(1);
+        Due.is("row(-1, 0) behind a calibration that is not taken", w.x.row(-1, 0), 2);
     }
 
-    private static void wrongNumbers(Wire w) {
-        for (int i : new int[] {3, 4, 100, -2, Integer.MIN_VALUE, Integer.MAX_VALUE}) {
-            for (int what = -1; what <= 3; what++) {
+    private static void thereIsNone() {
+        Due.sentence("6 row: \"-1 there is none\"");
+        Wire w = new Wire(20, 10);
+        for (int what = 0; what <= 2; what++) {
+            Due.is("row(0, " + what + ") with none", w.x.row(0, what), -1);
+        }
+        for (int count = 1; count <= 3; count++) {
+            w.rightFrame(count, 0x111111 * count);
+            Due.is("row(" + (count - 1) + ", 0)", w.x.row(count - 1, 0), count);
+            for (int what = 0; what <= 2; what++) {
+                Due.is("row(" + count + ", " + what + ") with " + count, w.x.row(count, what), -1);
+            }
+        }
+        for (int i : new int[] {-2, -3, 4, 5, 63, 64, 65, Integer.MIN_VALUE, Integer.MAX_VALUE}) {
+            for (int what = 0; what <= 2; what++) {
                 Due.is("row(" + i + ", " + what + ")", w.x.row(i, what), -1);
             }
         }
-        for (int what : new int[] {-1, 1, 2, 3, Integer.MIN_VALUE, Integer.MAX_VALUE}) {
-            Due.is("row(-1, " + what + ")", w.x.row(-1, what), -1);
+        // Of the number -1 only how many there were is known.
+        Due.is("row(-1, 1)", w.x.row(-1, 1), -1);
+        Due.is("row(-1, 2)", w.x.row(-1, 2), -1);
+    }
+
+    private static void noSuchWhat() {
+        Due.sentence("6 row: \"-2 no such what\"");
+        Wire w = new Wire(20, 10);
+        w.rightFrame(3, 0x123456);
+        w.wrongFrame(4, 0x654321);
+        for (int i = 0; i < 2; i++) {
+            for (int what : new int[] {-1, 3, -2, 4, 8, 256, Integer.MIN_VALUE, Integer.MAX_VALUE}) {
+                Due.is("row(" + i + ", " + what + ")", w.x.row(i, what), -2);
+            }
+            Due.is("row(" + i + ", 0)", w.x.row(i, 0), 3 + i);
+            Due.is("row(" + i + ", 2)", w.x.row(i, 2), 1 - i);
         }
     }
 
-    private static void everyWrongCheckIsWrong() {
-        int right = Wire.checkOf(0xA5C3F0);
+    private static void theFirstThatFits() {
+        Due.sentence("Terms, REFUSALS: \"the first that fits: -1 an unknown number, -2 outside a range\"");
         Wire w = new Wire(20, 10);
-        for (int check = 0; check < 16; check++) {
-            w.frame(2, 0xA5C3F0, check);
-            Due.is("row(" + check + ", 2)", w.x.row(check, 2), check == right ? 1 : 0);
+        for (int what : new int[] {-1, 3, Integer.MIN_VALUE, Integer.MAX_VALUE}) {
+            Due.is("row(0, " + what + ") with none", w.x.row(0, what), -1);
+            Due.is("row(-1, " + what + ") with none", w.x.row(-1, what), -1);
         }
-        Due.is("faults()", w.x.faults(), 15);
+        w.rightFrame(3, 0x123456);
+        for (int what : new int[] {-1, 3, Integer.MIN_VALUE, Integer.MAX_VALUE}) {
+            Due.is("row(0, " + what + "): the number is known", w.x.row(0, what), -2);
+            Due.is("row(1, " + what + "): both fit", w.x.row(1, what), -1);
+            Due.is("row(-1, " + what + "): both fit", w.x.row(-1, what), -1);
+            Due.is("row(-2, " + what + "): both fit", w.x.row(-2, what), -1);
+        }
     }
 
-    /** 1 + 56 * 9 edges are 505 of the 512 calls. */
-    private static void asManyAsTheCallsAllow() {
+    private static void statusDataAndRightness() {
+        Due.sentence("6 row: \"what = 0 its STATUS, 1 its data (24 bits, the first nibble the highest)\"");
         Wire w = new Wire(20, 10);
-        for (int k = 0; k < 56; k++) {
-            w.rightFrame(k & 7, 0x10101 * k);
+        int[][] frames = {{3, 0x123456, 2, 1}, {15, 0xFFFFFF, 10, 1}, {15, 0xFFFFFF, 15, 0}, {0, 0, 5, 1}, {0, 0, 0, 0},
+            {8, 0xF00000, 9, 1}, {1, 0x00000F, 0, 1}, {1, 0x00000F, 1, 0}};
+        for (int[] f : frames) {
+            w.frame(f[0], f[1], f[2]);
         }
-        Due.is("row(-1, 0)", w.x.row(-1, 0), 56);
-        Due.is("row(55, 0)", w.x.row(55, 0), 7);
-        Due.is("row(55, 1)", w.x.row(55, 1), 0x10101 * 55);
-        Due.is("row(55, 2)", w.x.row(55, 2), 1);
-        Due.is("row(56, 0)", w.x.row(56, 0), -1);
-        Due.is("nibble(1)", w.x.nibble(1), 3);
+        for (int i = 0; i < frames.length; i++) {
+            Due.is("row(" + i + ", 0)", w.x.row(i, 0), frames[i][0]);
+            Due.is("row(" + i + ", 1)", w.x.row(i, 1), frames[i][1]);
+            Due.is("row(" + i + ", 2)", w.x.row(i, 2), frames[i][3]);
+        }
+    }
+
+    private static void whetherItsCheckWasRight() {
+        Due.sentence("Terms: \"its CHECK is right if that is what CHECKING its six data nibbles gives\"");
+        // All six, zeros before too: 123456 gives 2, 000000 gives 5, 00F00F gives 6, FEDCBA gives 14.
+        int[][] cases = {{0x123456, 2}, {0, 5}, {0x00F00F, 6}, {0xFEDCBA, 14}, {0xFFFFFF, 10}};
+        for (int[] c : cases) {
+            Wire w = new Wire(20, 10);
+            for (int check = 0; check < 16; check++) {
+                int faults = w.x.faults();
+                w.frame(check, c[0], check);
+                boolean right = check == c[1];
+                String call = " of " + Integer.toHexString(c[0]) + " with the check " + check;
+                Due.is("row(" + check + ", 2)" + call, w.x.row(check, 2), right ? 1 : 0);
+                Due.is("faults()" + call, w.x.faults(), right ? faults : faults + 1);
+            }
+        }
     }
 }

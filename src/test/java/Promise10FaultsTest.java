@@ -2,10 +2,12 @@ public final class Promise10FaultsTest {
     public static void main(String[] args) {
         everyKindCounts();
         whatIsNoFault();
+        countedOnPastTheMark();
         Due.end();
     }
 
     private static void everyKindCounts() {
+        Due.sentence("10 faults: \"How many FAULTS there were\": each kind is one");
         Wire w = new Wire(20, 10);
         Due.is("faults() at first", w.x.faults(), 0);
         w.pulse(55);
@@ -26,14 +28,18 @@ public final class Promise10FaultsTest {
         Due.is("faults(): both tracks at once", w.x.faults(), 7);
         w.slowBits(Wire.slowRow(1, 1) ^ 1, 15, 0);
         Due.is("faults(): a slow row with a wrong check", w.x.faults(), 8);
+        Due.is("faults() again", w.x.faults(), 8);
     }
 
     private static void whatIsNoFault() {
+        Due.sentence("10 faults: refused calls, exceptions and what is right are none");
         Wire w = new Wire(20, 10);
         w.rightFrame(0, 0x999999);
         w.x.edge(0);
         w.x.edge(-1);
         w.x.bounce(true, -1);
+        w.x.bounce(true, 3);
+        w.x.bounce(false, 4);
         w.x.slow(7);
         w.x.row(7, 0);
         w.x.row(0, 7);
@@ -44,6 +50,20 @@ public final class Promise10FaultsTest {
         w.x.calibrate(1);
         Due.nibbleThrows("nibble(8)", w.x, 8);
         Due.calibrateThrows("calibrate(0)", w.x, 0);
-        Due.is("faults() behind refusals and exceptions", w.x.faults(), 0);
+        w.slowBits(Wire.slowRow(1, 1), 15, 0);
+        Due.is("faults()", w.x.faults(), 0);
+    }
+
+    private static void countedOnPastTheMark() {
+        Due.sentence("10 faults, Terms: \"FAULTS are counted\", behind a mark and a right frame too");
+        Wire w = new Wire(20, 10);
+        for (int k = 1; k <= 6; k++) {
+            w.pulse(1);
+            Due.is("faults(): also behind the third, which marks", w.x.faults(), k);
+        }
+        w.rightFrame(0, 0);
+        Due.is("faults(): a right frame takes none away", w.x.faults(), 6);
+        w.pulse(1);
+        Due.is("faults()", w.x.faults(), 7);
     }
 }
