@@ -40,7 +40,17 @@ public final class FaceTest {
         }
         int modifiers = PulseRows.class.getModifiers();
         Due.is("public and final", Modifier.isPublic(modifiers) && Modifier.isFinal(modifiers), true);
+        Due.is("a class of its own, above it Object", PulseRows.class.getSuperclass() == Object.class, true);
+        Due.is("interfaces of it", PulseRows.class.getInterfaces().length, 0);
+        for (Class<?> inside : PulseRows.class.getDeclaredClasses()) {
+            Due.is(inside + " is shown", isShown(inside.getModifiers()), false);
+            Due.is(inside + " is static", Modifier.isStatic(inside.getModifiers()), true);
+        }
         Due.end();
+    }
+
+    private static boolean isShown(int modifiers) {
+        return Modifier.isPublic(modifiers) || Modifier.isProtected(modifiers);
     }
 
     private static void note(Set<String> shown, int modifiers, String member) {
