@@ -1,3 +1,5 @@
+import java.util.function.IntSupplier;
+
 /**
  * Counts the answers that are not the ones due, sentence by sentence of the document,
  * and ends a test with exit code 1 if there was one.
@@ -45,26 +47,21 @@ final class Due {
     }
 
     static void nibbleThrows(String call, PulseRows x, int i) {
-        looks++;
-        try {
-            note(call + " answered " + x.nibble(i) + ", due is ArrayIndexOutOfBoundsException");
-        } catch (RuntimeException e) {
-            thrown(call, e, ArrayIndexOutOfBoundsException.class);
-        }
+        callThrows(call, () -> x.nibble(i), ArrayIndexOutOfBoundsException.class);
     }
 
     static void calibrateThrows(String call, PulseRows x, long length) {
-        looks++;
-        try {
-            note(call + " answered " + x.calibrate(length) + ", due is ArithmeticException");
-        } catch (RuntimeException e) {
-            thrown(call, e, ArithmeticException.class);
-        }
+        callThrows(call, () -> x.calibrate(length), ArithmeticException.class);
     }
 
-    private static void thrown(String call, RuntimeException got, Class<?> want) {
-        if (got.getClass() != want) {
-            note(call + " throws " + got.getClass().getName() + ", due is " + want.getName());
+    static void callThrows(String call, IntSupplier asked, Class<? extends RuntimeException> want) {
+        looks++;
+        try {
+            note(call + " answered " + asked.getAsInt() + ", due is " + want.getName());
+        } catch (RuntimeException got) {
+            if (got.getClass() != want) {
+                note(call + " throws " + got.getClass().getName() + ", due is " + want.getName());
+            }
         }
     }
 
